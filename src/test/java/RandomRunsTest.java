@@ -38,6 +38,12 @@ public final class RandomRunsTest {
 
   private int hour() { return num(Math.max(0, m.now - 3), Math.min(167, m.now + 30)); }
 
+  /** Mostly an hour of the job's window. */
+  private int hourOf(int job) {
+    if (job < 0 || job >= m.jobs.size() || random.nextInt(5) == 0) return hour();
+    return num(m.jobs.get(job).first, m.jobs.get(job).last);
+  }
+
   private int watts() {
     int r = random.nextInt(10);
     return r == 0 ? 0 : r == 1 ? num(0, 5000) : num(1, 4) * 250;
@@ -134,7 +140,7 @@ public final class RandomRunsTest {
       case 2:
         return same("each()", x.each(), m.each());
       case 3: {
-        int j = num(0, Math.max(0, m.jobs.size() - 1)), h = hour();
+        int j = num(0, Math.max(0, m.jobs.size() - 1)), h = hourOf(j);
         return same("put(" + j + ", " + h + ")", x.put(j, h), m.put(j, h));
       }
       case 4: {
@@ -164,7 +170,7 @@ public final class RandomRunsTest {
         return same("of(" + j + ", " + w + ")", x.of(j, w), m.of(j, w));
       }
       case 2: {
-        int j = num(0, Math.max(0, m.jobs.size() - 1)), h = hour();
+        int j = num(0, Math.max(0, m.jobs.size() - 1)), h = hourOf(j);
         return same("may(" + j + ", " + h + ")", x.may(j, h), m.may(j, h));
       }
       case 3: {
