@@ -80,7 +80,9 @@ public final class PlugHours {
             return refuse(NO_ROOM);
         }
         prices.tell(hour, price, known);
-        prices.lay(prices.today, planner.now);
+        if (known <= planner.now) {
+            prices.today[hour] = price;
+        }
         return accept(prices.size);
     }
 
@@ -406,7 +408,7 @@ public final class PlugHours {
         final int[] hour = new int[MOST_PRICES];
         final int[] price = new int[MOST_PRICES];
         final int[] known = new int[MOST_PRICES];
-        /** As known in NOW: laid anew whenever a price, PLAIN or NOW changes, since every plan asks for it. */
+        /** As known in NOW: kept up whenever a price, PLAIN or NOW changes, since every plan asks for it. */
         final int[] today = new int[HOURS];
         /** As known in the hour that a call asks for. */
         final int[] asked = new int[HOURS];

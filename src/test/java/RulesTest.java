@@ -83,6 +83,13 @@ public final class RulesTest {
     fault("dear 7,8", 6);
     fault("dears 7", 0);
     fault("Dear 7", 0);
+    fault("dearz 7", 0);
+    fault("adear 7", 0);
+    fault("dear{7", 4);
+    fault("dear`7", 4);
+    fault("dear /7", 5);
+    fault("dear :7", 5);
+    fault("dear 1: 7", 6);
     fault("dea r 7", 0);
     fault("quiet 4 from 1 to 2", 6);
     fault("quiet from 1 to 2", 6);
