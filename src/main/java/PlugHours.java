@@ -885,7 +885,7 @@ public final class PlugHours {
             for (int i = 0; i < search.size; i++) {
                 offerHours(i);
             }
-            boolean found = search.isHopeful(rules) && search.walkTwice();
+            boolean found = search.prepare(rules) && search.walkTwice();
             for (int i = 0; i < search.size; i++) {
                 int job = search.job[i];
                 int hour = found ? jobs.first[job] + search.best[i] : search.former[i];
@@ -975,7 +975,7 @@ public final class PlugHours {
         }
 
         /** What any two jobs leave each other; false if some job is left no place at all. */
-        boolean isHopeful(Rules rules) {
+        boolean prepare(Rules rules) {
             for (int i = 0; i < size; i++) {
                 for (int j = i + 1; j < size; j++) {
                     matchPair(i, j, rules);
