@@ -175,7 +175,7 @@ public final class PlugHours {
     }
 
     public int may(int job, int hour) {
-        if (!jobs.has(job) || jobs.state[job] == DONE) {
+        if (!jobs.has(job) || !isHour(hour) || jobs.state[job] == DONE) {
             return NONE;
         }
         return planner.mayBeginAsOpen(job, hour) ? 1 : 0;

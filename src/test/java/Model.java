@@ -131,7 +131,7 @@ final class Model {
   }
 
   int may(int job, int hour) {
-    if (!isJob(job) || jobs.get(job).state == 2) return -1;
+    if (!isJob(job) || !in(hour, 0, 167) || jobs.get(job).state == 2) return -1;
     return mayBegin(jobs.get(job), hour) ? 1 : 0;
   }
 

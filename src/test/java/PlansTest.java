@@ -12,9 +12,12 @@ public final class PlansTest {
     due("10: its first hour", x.may(0, 5), 1);
     due("10: its last hour", x.may(0, 8), 1);
     due("10: behind its window", x.may(0, 9), 0);
-    due("10: no hour at all", x.may(0, -1), 0);
-    due("10: beyond all hours", x.may(0, 168), 0);
-    due("10: the farthest", x.may(0, Integer.MAX_VALUE), 0);
+    due("10: the first hour of all", x.may(0, 0), 0);
+    due("10: the last hour of all", x.may(0, 167), 0);
+    due("10: ahead of all hours", x.may(0, -1), -1);
+    due("10: beyond all hours", x.may(0, 168), -1);
+    due("10: the farthest", x.may(0, Integer.MAX_VALUE), -1);
+    due("10: the farthest below", x.may(0, Integer.MIN_VALUE), -1);
     due("10: no such job", x.may(1, 5), -1);
     due("10: below all jobs", x.may(-1, 5), -1);
     x.go(6);
