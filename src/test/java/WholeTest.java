@@ -6,17 +6,20 @@ public final class WholeTest {
   private final Check check;
   private final PlugHours x = new PlugHours();
   private final Model m = new Model();
+  /** With units of 1 sums differ by as little as they can. */
+  private final int unit;
 
   private WholeTest(long seed, Check check) {
     random = new Random(seed);
     this.check = check;
+    unit = random.nextInt(3) == 0 ? 1 : 10;
   }
 
   private int from(int low, int high) { return low + random.nextInt(high - low + 1); }
 
   private void addJob(int homes, int first, int width) {
     int h = random.nextInt(homes), f = first + random.nextInt(3), l = Math.min(167, f + random.nextInt(width)), n = from(1, 4);
-    int a = from(0, 3) * 100, b = from(0, 3) * 100, c = from(0, 3) * 100, d = from(0, 3) * 100;
+    int a = from(0, 3) * unit, b = from(0, 3) * unit, c = from(0, 3) * unit, d = from(0, 3) * unit;
     check.due("job", x.job(h, f, l, n, a, b, c, d), m.job(h, f, l, n, a, b, c, d));
   }
 
@@ -47,18 +50,18 @@ public final class WholeTest {
     int homes = from(1, 3), first = random.nextInt(8) == 0 ? from(150, 164) : from(0, 20), jobs = from(2, 5);
     int width = jobs > 4 ? 5 : jobs > 3 ? 7 : 12;
     for (int h = 0; h < homes; h++) {
-      int fuse = from(2, 7) * 100;
+      int fuse = from(2, 7) * unit;
       check.due("home", x.home(fuse), m.home(fuse));
       for (int i = 0; i < 6; i++) {
-        int t = random.nextInt(24), w = from(0, 2) * 100;
+        int t = random.nextInt(24), w = from(0, 2) * unit;
         check.due("base", x.base(h, t, w), m.base(h, t, w));
       }
     }
-    int cable = from(4, 12) * 100;
+    int cable = from(4, 12) * unit;
     check.due("cable", x.cable(cable), m.cable(cable));
     int kinds = from(1, 9);
     for (int i = 0; i < 30; i++) {
-      int t = Math.min(167, first + random.nextInt(20)), p = from(-1, kinds) * 10;
+      int t = Math.min(167, first + random.nextInt(20)), p = from(-1, kinds) * unit;
       check.due("price", x.price(t, p, 0), m.price(t, p, 0));
     }
     StringBuilder text = new StringBuilder();
