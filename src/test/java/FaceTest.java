@@ -39,6 +39,11 @@ public final class FaceTest {
     for (Method m : c.getDeclaredMethods()) {
       check.isTrue(m + " has a name of its own", !Modifier.isPrivate(m.getModifiers()) || !names.contains(m.getName()));
     }
+    for (Class<?> inside : c.getDeclaredClasses()) {
+      for (Method m : inside.getDeclaredMethods()) {
+        check.isTrue(m + " has a name of its own", !names.contains(m.getName()));
+      }
+    }
     Constructor<?>[] made = c.getDeclaredConstructors();
     check.isTrue("one public constructor without arguments", made.length == 1
         && Modifier.isPublic(made[0].getModifiers()) && made[0].getParameterCount() == 0);
